@@ -12,6 +12,8 @@ public final class BoundTest {
         promise16And17Cuts();
         promise16And17NoCuts();
         promise17BaseOfEqualsIsTheLeast();
+        promise17BaseGoesByLevels();
+        promise17LongChains();
         promise17UnreachableNeeds();
         promise17MostCuts();
         promise18Landmark();
@@ -160,6 +162,34 @@ public final class BoundTest {
         Due.newAction(higher, 2, "", "0", "");
         Due.newAction(higher, 3, "", "1", "");
         cuts("goal's base has the greatest level", higher, 5, 2, 1);
+    }
+
+    /** Fact 2 has level 4 and weight 7, fact 3 level and weight 5: the base of both is 3. */
+    private static void promise17BaseGoesByLevels() {
+        CutPlanner p = Due.withFacts("----g");
+        Due.newAction(p, 3, "", "0", "");
+        Due.newAction(p, 3, "", "1", "");
+        Due.newAction(p, 1, "01", "2", "");
+        Due.newAction(p, 5, "", "3", "");
+        Due.newAction(p, 2, "23", "4", "");
+        cuts("base by levels", p, 14, 16, 8, 4, 1, 2);
+    }
+
+    /** The zone grows against the order of the actions, or the rest does. */
+    private static void promise17LongChains() {
+        CutPlanner up = Due.withFacts("---------g");
+        CutPlanner down = Due.withFacts("---------g");
+        int[] cutsUp = new int[10];
+        int[] cutsDown = new int[10];
+        for (int k = 0; k < 10; k++) {
+            Due.newAction(up, 1 + k % 9, k == 0 ? "" : "" + (k - 1), "" + k, "");
+            int fact = 9 - k;
+            Due.newAction(down, 1 + k % 9, fact == 0 ? "" : "" + (fact - 1), "" + fact, "");
+            cutsUp[k] = 1 << 9 - k;
+            cutsDown[k] = 1 << k;
+        }
+        cuts("chain up", up, 46, cutsUp);
+        cuts("chain down", down, 46, cutsDown);
     }
 
     private static void promise17UnreachableNeeds() {

@@ -1,5 +1,6 @@
 import java.util.List;
 import java.util.Set;
+import java.util.TreeSet;
 
 /** Runs of calls on made-up tasks: each answer is the one that Reference gives. */
 public final class ReferenceTest {
@@ -29,6 +30,26 @@ public final class ReferenceTest {
     }
 
     private void go() {
+        if (pick(3) == 0) {
+            makeLoose();
+        } else {
+            makeLayered();
+        }
+        compare();
+        int actions = due.costs.size();
+        for (int k = 0; k < 4 && actions > 0; k++) {
+            move(pick(actions));
+            doDraft(pick(actions));
+            compareSmall();
+        }
+        compare();
+        changeAfter();
+        compareSmall();
+        compare();
+    }
+
+    /** Anything with anything: often there is no plan. */
+    private void makeLoose() {
         int facts = 1 + pick(10);
         int actions = pick(13);
         for (int k = 0; k < facts; k++) {
@@ -42,23 +63,61 @@ public final class ReferenceTest {
         for (int k = 0; k < links; k++) {
             addLink(pick(8) / 3, pick(actions), pick(facts));
         }
-        compare();
-        for (int k = 0; k < 4 && actions > 0; k++) {
-            move(pick(actions));
-            doDraft(pick(actions));
-            compareSmall();
+    }
+
+    /** Facts lead to later ones in a hidden order: long ways, many cuts, bases of all kinds. */
+    private void makeLayered() {
+        int[] facts = shuffled(3 + pick(8));
+        int[] actions = shuffled(Math.min(12, facts.length + pick(5)));
+        int goals = 1 + pick(3);
+        for (int k = 0; k < facts.length; k++) {
+            addFact(facts[k] == 0, facts[k] >= facts.length - goals);
         }
-        compare();
+        int dearest = 1 + pick(9);
+        for (int k = 0; k < actions.length; k++) {
+            addAction(1 + pick(dearest));
+        }
+        int[] places = new int[facts.length];
+        for (int k = 0; k < facts.length; k++) {
+            places[facts[k]] = k;
+        }
+        for (int k = 0; k < actions.length; k++) {
+            linkLayered(actions[k], 1 + k % (facts.length - 1), places);
+        }
+    }
+
+    private void linkLayered(int action, int depth, int[] places) {
+        addLink(Due.ADDS, action, places[depth]);
+        if (pick(4) == 0) {
+            addLink(Due.ADDS, action, pick(places.length));
+        }
+        for (int k = pick(4); k > 0; k--) {
+            addLink(Due.NEEDS, action, places[Math.max(0, depth - 1 - pick(3))]);
+        }
+        if (pick(4) == 0) {
+            addLink(Due.DROPS, action, pick(places.length));
+        }
+    }
+
+    private int[] shuffled(int count) {
+        int[] row = new int[count];
+        for (int k = 0; k < count; k++) {
+            int at = pick(k + 1);
+            row[k] = row[at];
+            row[at] = k;
+        }
+        return row;
+    }
+
+    private void changeAfter() {
         if (pick(2) == 0) {
             planner.reset();
-            due.state = new java.util.TreeSet<>(due.first);
-        } else if (facts < 10) {
+            due.state = new TreeSet<>(due.first);
+        } else if (due.facts < 10) {
             addFact(pick(2) == 0, pick(2) == 0);
-        } else if (actions < 12) {
+        } else if (due.costs.size() < 12) {
             addAction(1 + pick(9));
         }
-        compareSmall();
-        compare();
     }
 
     private void addFact(boolean first, boolean goal) {
