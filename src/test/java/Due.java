@@ -5,8 +5,14 @@ final class Due {
     static final int DROPS = 2;
 
     private static int wrong = 0;
+    private static String sentence = "";
 
     private Due() {
+    }
+
+    /** What follows tests these words of the document; they are printed with each wrong answer. */
+    static void sentence(String words) {
+        sentence = "[" + words + "] ";
     }
 
     static void is(String what, long got, long want) {
@@ -40,7 +46,10 @@ final class Due {
         same(what + " throws and changes something", picture(planner), before);
     }
 
-    /** All that can be asked of an object without changing it. */
+    /**
+     * All that can be asked of an object without changing it. With it an object may come to more
+     * than the 512 calls that are promised; this program keeps no count of them.
+     */
     static String picture(CutPlanner planner) {
         StringBuilder text = new StringBuilder();
         for (int fact = 0; fact < 11; fact++) {
@@ -62,17 +71,18 @@ final class Due {
     }
 
     private static String ofFact(CutPlanner planner, int fact) {
+        StringBuilder text = new StringBuilder();
         try {
-            StringBuilder text = new StringBuilder();
-            text.append(planner.holds(fact)).append(planner.landmark(fact));
-            text.append(planner.level(fact, false)).append('/').append(planner.level(fact, true));
-            for (int other = 0; other <= fact; other++) {
-                text.append(planner.together(fact, other) ? '+' : '-');
-            }
-            return text.toString();
+            text.append(planner.holds(fact));
         } catch (IndexOutOfBoundsException e) {
             return "no fact";
         }
+        text.append(planner.landmark(fact));
+        text.append(planner.level(fact, false)).append('/').append(planner.level(fact, true));
+        for (int other = 0; other <= fact; other++) {
+            text.append(planner.together(fact, other) ? '+' : '-');
+        }
+        return text.toString();
     }
 
     private static String ofAction(CutPlanner planner, int action) {
@@ -85,7 +95,7 @@ final class Due {
 
     static void tell(String text) {
         wrong++;
-        System.out.println(text);
+        System.out.println(sentence + text);
     }
 
     /** Makes some facts, each written as first (f), goal (g), both (b) or neither (-). */
@@ -111,6 +121,39 @@ final class Due {
         for (int k = 0; k < facts.length(); k++) {
             planner.link(kind, action, facts.charAt(k) - '0');
         }
+    }
+
+    /** The cut bound and all cuts, each as the digits (a and b for 10 and 11) of its actions. */
+    static String foundCuts(CutPlanner planner) {
+        StringBuilder text = new StringBuilder();
+        text.append(planner.cuts()).append(':');
+        for (int k = 0; k < 13 && planner.cut(k) != 0; k++) {
+            text.append(' ');
+            for (int action = 0; action < 31; action++) {
+                if ((planner.cut(k) >> action & 1) != 0) {
+                    text.append(Character.forDigit(action, 36));
+                }
+            }
+        }
+        return text.toString();
+    }
+
+    /** The facts that are true in the state at hand, as 1, and those that are not, as 0. */
+    static String held(CutPlanner planner, int facts) {
+        StringBuilder text = new StringBuilder();
+        for (int fact = 0; fact < facts; fact++) {
+            text.append(planner.holds(fact) ? '1' : '0');
+        }
+        return text.toString();
+    }
+
+    /** Levels, or weights, of the first facts. */
+    static String heights(CutPlanner planner, int facts, boolean weight) {
+        StringBuilder text = new StringBuilder();
+        for (int fact = 0; fact < facts; fact++) {
+            text.append(fact == 0 ? "" : " ").append(planner.level(fact, weight));
+        }
+        return text.toString();
     }
 
     /** The plan that was found last, as text. */
