@@ -504,11 +504,13 @@ public final class CutPlanner {
         /** Each cut brings some action's cost to 0 and has none with cost 0: no more cuts than actions. */
         void collect(int in) {
             System.arraycopy(task.costs, 0, left, 0, MOST_ACTIONS);
+            count = 0;
             total = 0;
             int height = goalHeight(in);
-            for (count = 0; count < MOST_ACTIONS && height > 0 && height < FAR; count++) {
-                found[count] = nextCut(in);
-                total += pay(found[count]);
+            for (int k = 0; k < MOST_ACTIONS && height > 0 && height < FAR; k++) {
+                found[k] = nextCut(in);
+                count = k + 1;
+                total += pay(found[k]);
                 height = goalHeight(in);
             }
             if (height >= FAR) {
